@@ -199,9 +199,7 @@ public final class FrameStreams {
         End hearer = ends[end];
         requireState(hearer.isUp());
         int coming = Math.min(n, hearer.coming().count());
-        if (coming == 0) {
-            throw new NoSuchElementException();
-        }
+        requireThere(coming > 0);
         int whole = 0;
         for (int i = 0; i < coming; i++) {
             hearer.takeByte();
@@ -220,7 +218,7 @@ public final class FrameStreams {
     public int alter(int end, int i, int bits)
             throws IllegalArgumentException, NoSuchElementException, UnsupportedOperationException, IllegalStateException {
         requireWithin(end, 0, 1);
-        requireWithin(i, 0, Integer.MAX_VALUE);
+        requireArgument(i >= 0);
         requireWithin(bits, 0, GREATEST_BYTE);
         Wire wire = ends[end].coming();
         requireThere(i < wire.count());
@@ -242,8 +240,8 @@ public final class FrameStreams {
             throws IllegalArgumentException, NoSuchElementException, UnsupportedOperationException, IllegalStateException {
         requireWithin(end, 0, 1);
         requireStream(stream);
-        requireWithin(i, 0, Integer.MAX_VALUE);
-        requireWithin(k, 0, Integer.MAX_VALUE);
+        requireArgument(i >= 0);
+        requireArgument(k >= 0);
         Fields fields = ends[end].find(stream).fields();
         requireThere(i < fields.count());
         int text = value ? fields.valueAt(i) : fields.nameAt(i);
@@ -260,19 +258,19 @@ public final class FrameStreams {
     }
 
     private static void requireWithin(int number, int least, int greatest) {
-        if (number < least || number > greatest) {
-            throw new IllegalArgumentException();
-        }
+        requireArgument(number >= least && number <= greatest);
     }
 
     private static void requireStream(int number) {
-        if (!isStream(number)) {
-            throw new IllegalArgumentException();
-        }
+        requireArgument(isStream(number));
     }
 
     private static void requireStreamOrConnection(int number) {
-        if (number != 0 && !isStream(number)) {
+        requireArgument(number == 0 || isStream(number));
+    }
+
+    private static void requireArgument(boolean holds) {
+        if (!holds) {
             throw new IllegalArgumentException();
         }
     }
