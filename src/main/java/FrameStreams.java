@@ -118,7 +118,6 @@ public final class FrameStreams {
         requireWithin(end, 0, 1);
         requireStreamOrConnection(stream);
         End sender = ends[end];
-        requireState(sender.isUp());
         int number = stream == 0 ? sender.nextStream() : stream;
         requireState(number != 0);
         requireState(stream == 0 || sender.find(number).maySend());

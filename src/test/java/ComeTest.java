@@ -6,6 +6,7 @@ final class ComeTest {
         wrongNumbers();
         anErrorStopsIt();
         anErrorTellsTheGreatestStream();
+        awayNeedsRoom();
         tooLongAtOnce();
         longestFrame();
         unknownTypes();
@@ -99,6 +100,18 @@ final class ComeTest {
         Rig block = new Rig().open(1);
         block.errorOf(1, Rig.HEADERS, 0, 3, 31);
         Check.is("a wrong block does not", Rig.bytes(2, 7, 0, 0, 1, 9), block.wireText(0));
+    }
+
+    private static void awayNeedsRoom() {
+        Rig rig = new Rig().pings(0, 48);
+        rig.x.come(0, 6);
+        rig.comeAll(1);
+        Check.is("234 + 6", Rig.SIZE, rig.errorOfBytes(1, 41));
+        Check.is("AWAY", 240, rig.x.end(0, 1));
+        Check.is("its last byte", Rig.SIZE, rig.x.alter(0, 239, 0));
+        Rig full = new Rig().pings(0, 47);
+        Check.is("235 + 6", Rig.SIZE, full.errorOfBytes(1, 41));
+        Check.is("no AWAY", 235, full.x.end(0, 1));
     }
 
     private static void tooLongAtOnce() {

@@ -99,6 +99,7 @@ final class DataTest {
         for (int stream : new int[] {-1, 0, 2, 14, 15}) {
             Check.argument("stream " + stream, () -> rig.x.data(0, stream, 1, 1, false));
         }
+        Check.argument("end -1", () -> rig.x.data(-1, 1, 1, 1, false));
         Check.argument("end 2", () -> rig.x.data(2, 1, 1, 1, false));
         Check.argument("the number before the state", () -> rig.x.data(0, 3, 21, 1, false));
         Check.is("20 bytes", 40, rig.x.data(0, 1, 20, 255, false));

@@ -2,6 +2,7 @@
 final class FieldTest {
     public static void main(String[] args) {
         fieldsCount();
+        anyText();
         fieldsAreCopies();
         wrongNumbers();
         wrongStates();
@@ -19,6 +20,15 @@ final class FieldTest {
             }
             Check.state("a sixth field", () -> rig.x.field(e, 0, 1));
             Check.is("five stay", 5, rig.x.end(e, 6));
+        }
+    }
+
+    private static void anyText() {
+        for (int text = 0; text < 8; text++) {
+            Rig rig = new Rig();
+            rig.text(text, "ab");
+            Check.is("name " + text, 1, rig.x.field(1, text, (text + 1) % 8));
+            Check.is("value " + text, 2, rig.x.field(1, text, text));
         }
     }
 

@@ -15,6 +15,7 @@ final class HeadersTest {
         longBlockChangesNothing();
         longestBlock();
         noRoomChangesNothing();
+        refusedBlockIsForgotten();
         Check.end("HeadersTest");
     }
 
@@ -214,6 +215,29 @@ final class HeadersTest {
         odd.list(0, "aaaaaa=bbbbbb", "bbbbbb=aaaaaa", "cc=cccccc");
         Check.state("41 bytes", () -> odd.x.headers(0, 0, false));
         Check.state("and again", () -> odd.x.headers(0, 0, false));
+    }
+
+    private static void refusedBlockIsForgotten() {
+        Rig rig = new Rig();
+        rig.x.setting(1, 0, 2);
+        rig.settle();
+        rig.pings(1, 48);
+        rig.list(0, "a=b", "c=d");
+        Check.state("no room", () -> rig.x.headers(0, 0, false));
+        Check.state("and again", () -> rig.x.headers(0, 0, false));
+        rig.comeAll(1);
+        rig.x.headers(0, 0, false);
+        String due = Rig.bytes(11, 1, 0, 1, 34, 64, 1, 'a', 1, 'b', 64, 1, 'c', 1, 'd');
+        Check.is("as if made for the first time", due, rig.wireText(1));
+        Check.is("16 of 20", 2, rig.x.end(0, 2));
+        rig.settle();
+        rig.pings(1, 48);
+        rig.list(0, "e=");
+        Check.state("no room", () -> rig.x.headers(0, 1, false));
+        Check.is("two still", 2, rig.x.end(0, 2));
+        rig.comeAll(1);
+        rig.x.headers(0, 1, false);
+        Check.is("8 + 7 of 20", 2, rig.x.end(0, 2));
     }
 
     private static void noRoomChangesNothing() {

@@ -92,6 +92,9 @@ final class HearBlockTest {
         Check.is("a value of seven", Rig.COMPRESSION, new Rig().errorOfBlock(65, 7, 97, 97, 97, 97, 97, 97, 97));
         Check.is("a value of 255", Rig.COMPRESSION, new Rig().errorOfBlock(65, 255, 97));
         Check.is("an empty name", Rig.COMPRESSION, new Rig().errorOfBlock(64, 0, 1, 97));
+        Check.is("an empty name behind all", Rig.COMPRESSION, new Rig().errorOfBlock(64, 0));
+        Check.is("an empty name, then a field", Rig.COMPRESSION, new Rig().errorOfBlock(64, 0, 129));
+        Check.is("a name that is none, then a field", Rig.COMPRESSION, new Rig().errorOfBlock(70, 129));
         Check.is("an empty name, not added", Rig.COMPRESSION, new Rig().errorOfBlock(0, 0, 1, 97));
         for (int letter : new int[] {96, 123, 0, 65, 255}) {
             Check.is("letter " + letter, Rig.COMPRESSION, new Rig().errorOfBlock(64, 1, letter, 0));

@@ -44,6 +44,7 @@ final class ResetTest {
         for (int stream : new int[] {-1, 0, 2, 14, 15}) {
             Check.argument("stream " + stream, () -> rig.x.reset(0, stream, 0));
         }
+        Check.argument("end -1", () -> rig.x.reset(-1, 1, 0));
         Check.argument("end 2", () -> rig.x.reset(2, 1, 0));
         Check.argument("the number before the state", () -> rig.x.reset(0, 3, 256));
         Check.is("OPEN still", Rig.OPEN, rig.x.stream(0, 1, 0));

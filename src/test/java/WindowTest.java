@@ -63,6 +63,7 @@ final class WindowTest {
             Check.argument("stream " + stream, () -> rig.x.window(0, stream, 1));
         }
         Check.argument("end -1", () -> rig.x.window(-1, 0, 1));
+        Check.argument("end 2", () -> rig.x.window(2, 0, 1));
         Check.argument("the number before the state", () -> rig.x.window(0, 3, 61));
     }
 
