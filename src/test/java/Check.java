@@ -7,15 +7,21 @@ final class Check {
 
     private static int looked = 0;
     private static int wrong = 0;
+    private static String sentence = "";
 
     private Check() {
+    }
+
+    /** What follows is looked at for this sentence of the document. */
+    static void sentence(String words) {
+        sentence = "[" + words + "] ";
     }
 
     static void is(String what, Object want, Object got) {
         looked++;
         if (!want.equals(got)) {
             wrong++;
-            System.out.println(what + " answered " + got + ", due is " + want);
+            System.out.println(sentence + what + " answered " + got + ", due is " + want);
         }
     }
 

@@ -109,7 +109,7 @@ final class DataTest {
         Rig rig = new Rig().open(1).pings(1, 46);
         String before = rig.all();
         Check.state("230 + 11", () -> rig.x.data(0, 1, 7, 1, true));
-        Check.is("nothing changed", before, rig.all());
+        Check.is("what is changed", "", State.difference(before, rig.all()));
         Check.is("230 + 10", 10, rig.x.data(0, 1, 6, 1, true));
         rig.errorOfBytes(0, 99);
         Check.state("SHUT", () -> rig.x.data(0, 1, 0, 0, false));

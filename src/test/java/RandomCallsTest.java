@@ -2,15 +2,15 @@ import java.util.Random;
 
 /**
  * All promises: whatever is called, only the document's exceptions come, a refused call changes nothing
- * that can be asked, and the tables of both ends stay alike as long as no byte is altered.
+ * that can be found out, and the tables of both ends stay alike as long as no byte is altered.
  */
 final class RandomCallsTest {
-    private static final int RUNS = 60;
-    private static final int CALLS = 300;
+    private static final int RUNS = 40;
+    private static final int CALLS = 220;
 
     private final Random random;
     private final Rig rig = new Rig();
-    private final FrameStreams x = rig.x;
+    private final Calls x = rig.x;
     /** Of a hundred arguments, how many are any number at all. */
     private final int wild;
     private final boolean alters;
@@ -30,7 +30,7 @@ final class RandomCallsTest {
 
     private void run(String name) {
         for (int i = 0; i < CALLS; i++) {
-            String before = rig.all();
+            Calls before = x.copy();
             int kind = random.nextInt(20);
             String answer = Check.thrownBy(call(kind));
             String where = name + ", call " + i + ", kind " + kind;
@@ -39,7 +39,7 @@ final class RandomCallsTest {
             } else if (answer.endsWith("Exception")) {
                 boolean isTold = answer.matches("(IllegalArgument|IllegalState|NoSuchElement)Exception");
                 Check.is(where + " throws " + answer, true, isTold);
-                Check.is(where + " changed by " + answer, before, rig.all());
+                Check.is(where + " changed by " + answer, "", State.difference(State.of(before), rig.all()));
             }
         }
         if (!alters) {

@@ -54,7 +54,7 @@ final class ResetTest {
         Rig rig = new Rig().open(1).pings(1, 48);
         String before = rig.all();
         Check.state("240 + 5", () -> rig.x.reset(0, 1, 0));
-        Check.is("nothing changed", before, rig.all());
+        Check.is("what is changed", "", State.difference(before, rig.all()));
         rig.x.come(1, 5);
         Check.is("235 + 5", 0, rig.x.reset(0, 1, 0));
         Rig shut = new Rig().open(1);

@@ -21,8 +21,7 @@ final class Rig {
     static final int SIZE = 6;
     static final int COMPRESSION = 9;
 
-
-    final FrameStreams x = new FrameStreams();
+    final Calls x = new Calls();
 
     /** A text is made to be these letters. */
     void text(int text, String letters) {
@@ -75,9 +74,10 @@ final class Rig {
 
     /** The bytes on the way to the end. */
     int[] wire(int end) {
-        int[] bytes = new int[x.end(end, 1)];
+        Calls copy = x.copy();
+        int[] bytes = new int[copy.end(end, 1)];
         for (int i = 0; i < bytes.length; i++) {
-            bytes[i] = x.alter(end, i, 0);
+            bytes[i] = copy.alter(end, i, 0);
         }
         return bytes;
     }
@@ -105,6 +105,9 @@ final class Rig {
      * What is left of them becomes frames of a type that is none.
      */
     Rig put(int end, int... bytes) {
+        if (x.end(end, 1) > 0) {
+            throw new AssertionError("there are bytes on the way already");
+        }
         int pings = (bytes.length + 4) / 5;
         int left = 5 * pings - bytes.length;
         if (left >= 1 && left <= 3) {
@@ -160,15 +163,20 @@ final class Rig {
 
     /** The fields heard on a stream, each as name=value, with a space between. */
     String fields(int end, int stream) {
+        return fields(x.copy(), end, stream);
+    }
+
+    static String fields(Calls x, int end, int stream) {
         StringBuilder all = new StringBuilder();
-        for (int i = 0; i < x.stream(end, stream, 5); i++) {
+        int count = x.stream(end, stream, 5);
+        for (int i = 0; i < count; i++) {
             all.append(i == 0 ? "" : " ");
-            all.append(part(end, stream, i, false)).append('=').append(part(end, stream, i, true));
+            all.append(part(x, end, stream, i, false)).append('=').append(part(x, end, stream, i, true));
         }
         return all.toString();
     }
 
-    private String part(int end, int stream, int i, boolean value) {
+    private static String part(Calls x, int end, int stream, int i, boolean value) {
         StringBuilder letters = new StringBuilder();
         for (int k = 0; k < 7; k++) {
             int at = k;
@@ -181,23 +189,9 @@ final class Rig {
         return letters.toString();
     }
 
-    /** All that can be asked of an object, but for the texts and what the lists hold. */
+    /** All that can be found out about the object. */
     String all() {
-        StringBuilder all = new StringBuilder();
-        for (int end = 0; end < 2; end++) {
-            for (int what = 0; what <= 10; what++) {
-                all.append(x.end(end, what)).append(' ');
-            }
-            all.append(wireText(end)).append('\n');
-            all.append(x.stream(end, 0, 1)).append(' ').append(x.stream(end, 0, 2)).append('\n');
-            for (int stream = 1; stream <= 13; stream += 2) {
-                for (int what = 0; what <= 5; what++) {
-                    all.append(x.stream(end, stream, what)).append(' ');
-                }
-                all.append(fields(end, stream)).append('\n');
-            }
-        }
-        return all.toString();
+        return State.of(x);
     }
 
     /** Fills the wire to the end with that many pings, each of five bytes. */
@@ -206,5 +200,66 @@ final class Rig {
             x.ping(1 - toEnd, i);
         }
         return this;
+    }
+
+    /** Fills the empty wire to the end with exactly so many bytes; the end may have a frame's front then. */
+    Rig fill(int toEnd, int bytes) {
+        int pings = (bytes + 4) / 5;
+        pings(toEnd, pings);
+        if (5 * pings > bytes) {
+            x.come(toEnd, 5 * pings - bytes);
+        }
+        Check.is("bytes on the way to " + toEnd, bytes, x.end(toEnd, 1));
+        return this;
+    }
+
+    /** The stream 1 is in that state at the end, and nothing is on the way. */
+    static Rig inState(int end, int state) {
+        Rig rig = new Rig();
+        if (state != IDLE) {
+            rig.open(1);
+        }
+        if (state == SENT) {
+            rig.x.data(end, 1, 0, 0, true);
+        } else if (state == HEARD) {
+            rig.x.data(1 - end, 1, 0, 0, true);
+        } else if (state == CLOSED) {
+            rig.x.reset(end, 1, 0);
+        }
+        rig.settle();
+        Check.is("the state of 1 at " + end, state, rig.x.stream(end, 1, 0));
+        return rig;
+    }
+
+    /** The end is shut by a length too great; AWAY is on the way to the other one. */
+    Rig shut(int end) {
+        Check.is("the end " + end + " is SHUT", SIZE, errorOfBytes(end, 41));
+        return this;
+    }
+
+    /** ROOM and DUE of a stream, or of the connection, at an end. */
+    String windows(int end, int stream) {
+        return x.stream(end, stream, 1) + " " + x.stream(end, stream, 2);
+    }
+
+    /** The call is refused for its numbers, and nothing is changed. */
+    void argument(String what, Check.Call call) {
+        refused(what, "IllegalArgumentException", call);
+    }
+
+    /** The call is refused for the state, and nothing is changed. */
+    void state(String what, Check.Call call) {
+        refused(what, "IllegalStateException", call);
+    }
+
+    /** The call is refused as nothing is there, and nothing is changed. */
+    void nothing(String what, Check.Call call) {
+        refused(what, "NoSuchElementException", call);
+    }
+
+    private void refused(String what, String exception, Check.Call call) {
+        String before = all();
+        Check.is(what, exception, Check.thrownBy(call));
+        Check.is(what + ": what is changed", "", State.difference(before, all()));
     }
 }

@@ -118,7 +118,7 @@ final class SettingTest {
         Rig rig = new Rig().open(1).pings(1, 47);
         String before = rig.all();
         Check.state("235 + 6", () -> rig.x.setting(0, 1, 60));
-        Check.is("nothing changed", before, rig.all());
+        Check.is("what is changed", "", State.difference(before, rig.all()));
         rig.x.come(1, 1);
         Check.is("234 + 6", 16, rig.x.setting(0, 1, 60));
         rig.errorOfBytes(0, 99);

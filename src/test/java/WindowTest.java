@@ -72,7 +72,7 @@ final class WindowTest {
         Check.is("235 + 5", 17, rig.x.window(0, 1, 1));
         String before = rig.all();
         Check.state("240 + 5", () -> rig.x.window(0, 1, 1));
-        Check.is("nothing changed", before, rig.all());
+        Check.is("what is changed", "", State.difference(before, rig.all()));
         rig.errorOfBytes(0, 99);
         Check.state("SHUT", () -> rig.x.window(0, 0, 1));
     }
