@@ -21,7 +21,15 @@ final class Rig {
     static final int SIZE = 6;
     static final int COMPRESSION = 9;
 
-    final Calls x = new Calls();
+    final Calls x;
+
+    Rig() {
+        this(new Calls());
+    }
+
+    Rig(Calls x) {
+        this.x = x;
+    }
 
     /** A text is made to be these letters. */
     void text(int text, String letters) {
