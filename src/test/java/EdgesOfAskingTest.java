@@ -202,7 +202,8 @@ final class EdgesOfAskingTest {
     }
 
     private static void endOfFullOnes() {
-        Check.sentence("bytes on the way, FIELDS in the table, streams, FIELDS in the LIST: as many as there may be");
+        Check.sentence("bytes on the way, FIELDS in the table, streams, FIELDS in the LIST: as many as there "
+                + "may be");
         Rig rig = new Rig().open(7);
         rig.x.setting(1, 0, 6);
         rig.settle();

@@ -43,7 +43,8 @@ final class EdgesOfBlocksTest {
     }
 
     private static void limitIsPutFirst() {
-        Check.sentence("first, if ten times the other end's TABLE that is known is not the limit, that becomes it and a byte 32 + TABLE is put");
+        Check.sentence("first, if ten times the other end's TABLE that is known is not the limit, that becomes "
+                + "it and a byte 32 + TABLE is put");
         for (int table = 0; table <= 6; table++) {
             Rig rig = rig(table);
             String due = table == 3 ? Rig.bytes(129) : Rig.bytes(32 + table, 129);
@@ -73,12 +74,21 @@ final class EdgesOfBlocksTest {
     }
 
     private static void limitOfARefusedBlock() {
-        Check.sentence("a call with an exception changes nothing: the limit and the table of a BLOCK that is not sent");
+        Check.sentence("a call with an exception changes nothing: the limit and the table of a BLOCK that is "
+                + "not sent");
         Rig rig = rig(6);
         rig.list(0, "aaaaaa=bbbbbb", "cccccc=dddddd", "eeeeee=ffffff");
         rig.state("too long", () -> rig.x.headers(0, 1, false));
         rig.state("on a new stream too", () -> rig.x.headers(0, 0, false));
         Check.is("no field was added", 0, rig.x.end(0, 2));
+        Rig added = rig(3);
+        block(added, "a=b", "c=d", "e=f");
+        added.list(0, "aaaaaa=bbbbbb", "cccccc=dddddd", "eeeeee=ffffff");
+        added.state("too long, by a table with FIELDS", () -> added.x.headers(0, 1, false));
+        Rig taken = rig(3);
+        block(taken, "a=b", "c=d", "e=f");
+        taken.list(0, "q=rs").fill(1, 240 - 9);
+        taken.state("no room, by a table with FIELDS", () -> taken.x.headers(0, 1, false));
         Rig full = rig(2);
         full.list(0, "a=b").fill(1, 240 - 9);
         full.state("no room", () -> full.x.headers(0, 1, false));
@@ -190,7 +200,8 @@ final class EdgesOfBlocksTest {
     }
 
     private static void addedNames() {
-        Check.sentence("64 + INDEX of a FIELD with that name (0: the name as a STRING), the value as a STRING; and the FIELD is added");
+        Check.sentence("64 + INDEX of a FIELD with that name (0: the name as a STRING), the value as a STRING; "
+                + "and the FIELD is added");
         right("a=b", 64, 1, 'a', 1, 'b');
         right("m=x", 65, 1, 'x');
         right("s=x", 69, 1, 'x');

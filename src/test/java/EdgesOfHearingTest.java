@@ -136,7 +136,8 @@ final class EdgesOfHearingTest {
     }
 
     private static void aShutEndSendsNothing() {
-        Check.sentence("nothing is sent by it any more; the end is SHUT (field, headers, data, window, reset, setting, ping, come)");
+        Check.sentence("nothing is sent by it any more; the end is SHUT (field, headers, data, window, reset, "
+                + "setting, ping, come)");
         for (int end = 0; end < 2; end++) {
             int e = end;
             Rig rig = new Rig().open(1);

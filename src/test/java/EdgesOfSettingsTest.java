@@ -69,7 +69,8 @@ final class EdgesOfSettingsTest {
     }
 
     private static void heardRanges() {
-        Check.sentence("SETTINGS: the bytes are which one and its value, out of range: PROTOCOL; else they are taken and ANSWERED");
+        Check.sentence("SETTINGS: the bytes are which one and its value, out of range: PROTOCOL; else they are "
+                + "taken and ANSWERED");
         for (int end = 0; end < 2; end++) {
             for (int which = 0; which <= 2; which++) {
                 for (int value : new int[] {0, GREATEST[which]}) {

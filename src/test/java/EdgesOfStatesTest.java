@@ -75,7 +75,8 @@ final class EdgesOfStatesTest {
     }
 
     private static void resetCall() {
-        Check.sentence("Sends RESET of a stream neither IDLE nor CLOSED (IllegalStateException); RESET, sent, to CLOSED");
+        Check.sentence("Sends RESET of a stream neither IDLE nor CLOSED (IllegalStateException); RESET, sent, "
+                + "to CLOSED");
         call((x, end) -> x.reset(end, 1, 9), 0, REFUSED, Rig.CLOSED, Rig.CLOSED, Rig.CLOSED, REFUSED);
     }
 
@@ -106,7 +107,8 @@ final class EdgesOfStatesTest {
         error(0, Rig.IDLE, Rig.frame(Rig.HEADERS, 0, 1, 129), Rig.PROTOCOL);
         error(0, Rig.IDLE, Rig.frame(Rig.HEADERS, 0, 13), Rig.PROTOCOL);
         for (int end = 0; end < 2; end++) {
-            Check.sentence("HEADERS: OPEN or SENT: the FIELDS are the stream's HEARD FIELDS; hearing LAST takes OPEN to HEARD, SENT to CLOSED");
+            Check.sentence("HEADERS: OPEN or SENT: the FIELDS are the stream's HEARD FIELDS; hearing LAST takes "
+                    + "OPEN to HEARD, SENT to CLOSED");
             frame(end, Rig.OPEN, Rig.frame(Rig.HEADERS, 0, 1, 129), Rig.OPEN, NOTHING);
             frame(end, Rig.OPEN, Rig.frame(Rig.HEADERS, 1, 1, 129), Rig.HEARD, NOTHING);
             frame(end, Rig.SENT, Rig.frame(Rig.HEADERS, 0, 1, 129), Rig.SENT, NOTHING);
@@ -283,7 +285,8 @@ final class EdgesOfStatesTest {
     }
 
     private static void asManyAsStreamsThere() {
-        Check.sentence("but if as many as its STREAMS are OPEN, SENT or HEARD already: CLOSED, then RESET 7 is sent");
+        Check.sentence("but if as many as its STREAMS are OPEN, SENT or HEARD already: CLOSED, then RESET 7 is "
+                + "sent");
         for (int state = Rig.OPEN; state <= Rig.CLOSED; state++) {
             for (int last = 0; last < 2; last++) {
                 Rig rig = Rig.inState(1, state);
@@ -294,6 +297,7 @@ final class EdgesOfStatesTest {
                 int open = last == 1 ? Rig.HEARD : Rig.OPEN;
                 Check.is("beside the state " + state, isFull ? Rig.CLOSED : open, rig.x.stream(1, 3, 0));
                 Check.is("what is sent", isFull ? Rig.bytes(1, 3, 0, 3, 7) : NOTHING, rig.wireText(0));
+                Check.is("FIELDS of one that is OPEN alone", isFull ? "" : "m=get", rig.fields(1, 3));
             }
         }
         for (int streams = 0; streams <= 6; streams++) {
@@ -309,6 +313,13 @@ final class EdgesOfStatesTest {
             Check.is("RESET 7 alone", Rig.bytes(1, 3, 0, 2 * streams + 1, 7), rig.wireText(0));
             Check.is("live", streams, rig.x.end(1, 5));
         }
+        Rig fewer = new Rig().open(2);
+        fewer.x.setting(1, 2, 1);
+        fewer.settle();
+        fewer.hear(1, Rig.HEADERS, 0, 5);
+        Check.is("more than as many", Rig.CLOSED, fewer.x.stream(1, 5, 0));
+        Check.is("RESET 7", Rig.bytes(1, 3, 0, 5, 7), fewer.wireText(0));
+        Check.is("those that are there stay", 2, fewer.x.end(1, 5));
         Rig seven = new Rig();
         seven.x.setting(1, 2, 7);
         seven.settle();
@@ -341,6 +352,9 @@ final class EdgesOfStatesTest {
             Check.is("an old one goes on", 1, rig.x.headers(0, 1, false));
             Check.is("and its DATA", 15, rig.x.data(0, 1, 1, 1, true));
         }
+        Rig nought = new Rig();
+        nought.hear(0, Rig.AWAY, 0, 0, 0, 0);
+        nought.state("AWAY of the stream 0 and the number 0", () -> nought.x.headers(0, 0, false));
         Rig rig = new Rig();
         Check.is("none came", -1, rig.x.end(0, 7));
         Check.is("a new one", 1, rig.x.headers(0, 0, false));

@@ -10,6 +10,7 @@ final class EdgesOfTablesTest {
         sizeWithinTheLimit();
         firstLimit();
         onlyAsManyAsNeeded();
+        sizesOfThoseLeft();
         asGreatAsTheLimit();
         aboveTheLimit();
         noTableAtAll();
@@ -92,7 +93,8 @@ final class EdgesOfTablesTest {
     }
 
     private static void leastIndex() {
-        Check.sentence("the byte 128 + the least INDEX; else the byte 64 + the least INDEX of a FIELD with that name");
+        Check.sentence("the byte 128 + the least INDEX; else the byte 64 + the least INDEX of a FIELD with that "
+                + "name");
         Rig rig = rig(6);
         Check.is("the limit", Rig.bytes(38), send(rig));
         Check.is("m is 1, not 2", Rig.bytes(65, 1, 'x'), send(rig, "m=x"));
@@ -120,7 +122,8 @@ final class EdgesOfTablesTest {
     }
 
     private static void sizeWithinTheLimit() {
-        Check.sentence("A FIELD has the SIZE of its letters and 6. Adding one takes off the oldest ones till it fits within the limit");
+        Check.sentence("A FIELD has the SIZE of its letters and 6. Adding one takes off the oldest ones till it "
+                + "fits within the limit");
         for (int name = 1; name <= 6; name++) {
             for (int value = 0; value <= 6; value++) {
                 String first = letters('a', name) + "=" + letters('b', value);
@@ -167,6 +170,22 @@ final class EdgesOfTablesTest {
             int shorter = left[size - 7] == 4 ? kept.length() : left[size - 7] == 3 ? 7 : 3;
             Check.is("the newest stay", field('z', size) + " " + kept.substring(0, shorter), table(rig));
         }
+    }
+
+    private static void sizesOfThoseLeft() {
+        Check.sentence("takes off the oldest ones till it fits: by the SIZES of those that are left, each time");
+        Rig rig = rig(3);
+        send(rig, "a=", field('b', 18));
+        send(rig, field('c', 10));
+        Check.is("7 is off for 18 + 10", "c=ccc bbbbbb=bbbbbb", table(rig));
+        send(rig, "d=");
+        Check.is("18 is off for 10 + 7", "d= c=ccc", table(rig));
+        send(rig, field('e', 13));
+        Check.is("10 + 7 + 13", "e=eeeeee d= c=ccc", table(rig));
+        send(rig, field('f', 10));
+        Check.is("10 is off for 7 + 13 + 10", "f=fff e=eeeeee d=", table(rig));
+        send(rig, "g=");
+        Check.is("7 is off for 13 + 10 + 7", "g= f=fff e=eeeeee", table(rig));
     }
 
     private static void asGreatAsTheLimit() {

@@ -373,7 +373,8 @@ final class EdgesOfTheWireTest {
     }
 
     private static void lengthsOfFrames() {
-        Check.sentence("SETTINGS, RESET, PING, AWAY, WINDOW of another LENGTH than 2 (ANSWER: 0), 1, 1, 2, 1: PROTOCOL 1");
+        Check.sentence("SETTINGS, RESET, PING, AWAY, WINDOW of another LENGTH than 2 (ANSWER: 0), 1, 1, 2, 1: "
+                + "PROTOCOL 1");
         lengths(Rig.SETTINGS, 0, 0, 2);
         lengths(Rig.SETTINGS, 1, 0, 0);
         lengths(Rig.RESET, 0, 1, 1);

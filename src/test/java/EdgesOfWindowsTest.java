@@ -149,7 +149,8 @@ final class EdgesOfWindowsTest {
     }
 
     private static void dueFallsInAnyState() {
-        Check.sentence("DATA: the connection's DUE falls by LENGTH before HEARD, CLOSED and the stream's DUE are looked at");
+        Check.sentence("DATA: the connection's DUE falls by LENGTH before HEARD, CLOSED and the stream's DUE "
+                + "are looked at");
         for (int state : new int[] {Rig.HEARD, Rig.CLOSED}) {
             Rig rig = Rig.inState(1, state);
             Check.is("24 of 24", 0, rig.errorOf(1, Rig.DATA, 0, 1, new int[24]));
@@ -317,7 +318,8 @@ final class EdgesOfWindowsTest {
     }
 
     private static void settingsAbove250() {
-        Check.sentence("WINDOW: the ROOM (and at this end the DUE) grows by the difference; 250 is a bound of WINDOW frames alone");
+        Check.sentence("WINDOW: the ROOM (and at this end the DUE) grows by the difference; 250 is a bound of "
+                + "WINDOW frames alone");
         Rig rig = wide(24, 250);
         rig.x.setting(1, 1, 59);
         rig.x.window(1, 1, 1);
@@ -360,7 +362,8 @@ final class EdgesOfWindowsTest {
     }
 
     private static void settingsOfNewStreams() {
-        Check.sentence("for a stream when it stops being IDLE: the WINDOW that the other end has told, and that this one has told in SETTINGS");
+        Check.sentence("for a stream when it stops being IDLE: the WINDOW that the other end has told, and that "
+                + "this one has told in SETTINGS");
         for (int window : new int[] {0, 60}) {
             Rig rig = new Rig();
             rig.x.setting(0, 1, 60 - window);

@@ -33,14 +33,16 @@ final class ExceptionOrderTest {
     }
 
     private static void numbersBeforeShut() {
-        Check.sentence("EXCEPTIONS in this order: IllegalArgumentException, then IllegalStateException: the end is SHUT");
+        Check.sentence("EXCEPTIONS in this order: IllegalArgumentException, then IllegalStateException: the end "
+                + "is SHUT");
         for (int end = 0; end < 2; end++) {
             wrongNumbers(new Rig().open(1).shut(end), end);
         }
     }
 
     private static void numbersBeforeNoRoom() {
-        Check.sentence("EXCEPTIONS in this order: IllegalArgumentException, then IllegalStateException: no room on the WIRE");
+        Check.sentence("EXCEPTIONS in this order: IllegalArgumentException, then IllegalStateException: no room "
+                + "on the WIRE");
         for (int end = 0; end < 2; end++) {
             wrongNumbers(new Rig().open(1).fill(1 - end, 240), end);
         }
@@ -79,7 +81,8 @@ final class ExceptionOrderTest {
     }
 
     private static void shutBeforeNothingThere() {
-        Check.sentence("EXCEPTIONS in this order: IllegalStateException: the end is SHUT (come), before NoSuchElementException");
+        Check.sentence("EXCEPTIONS in this order: IllegalStateException: the end is SHUT (come), before "
+                + "NoSuchElementException");
         for (int end = 0; end < 2; end++) {
             int e = end;
             Rig rig = new Rig().fill(1 - end, 240);
@@ -100,7 +103,8 @@ final class ExceptionOrderTest {
     }
 
     private static void askingIsNotRefusedByAShutEnd() {
-        Check.sentence("the end is SHUT (field, headers, data, window, reset, setting, ping, come): not the other calls");
+        Check.sentence("the end is SHUT (field, headers, data, window, reset, setting, ping, come): not the "
+                + "other calls");
         for (int end = 0; end < 2; end++) {
             int e = end;
             Rig rig = new Rig().open(1);

@@ -6,6 +6,7 @@ final class NewObjectTest {
         }
         textsAreEmpty();
         objectsAreApart();
+        fiveHundredAndTwelveCalls();
         Check.end("NewObjectTest");
     }
 
@@ -42,5 +43,25 @@ final class NewObjectTest {
         one.settle();
         looksNew(new FrameStreams(), 0);
         looksNew(new FrameStreams(), 1);
+    }
+
+    private static void fiveHundredAndTwelveCalls() {
+        Check.sentence("An object is used for at most 512 calls after it has been made");
+        FrameStreams x = new FrameStreams();
+        int calls = 0;
+        for (int i = 0; i < 170; i++) {
+            Check.is("ping " + i, 0, x.ping(0, i));
+            Check.is("it comes", 1, x.come(1, 60));
+            Check.is("the answer comes", 1, x.come(0, 60));
+            calls += 3;
+        }
+        Check.is("the 511th call", 170, x.end(0, 4));
+        Check.is("the 512th call", 0, x.end(1, 4));
+        Check.is("so many calls", 512, calls + 2);
+        FrameStreams text = new FrameStreams();
+        for (int i = 1; i <= 511; i++) {
+            Check.is("call " + i, i % 7 == 0 ? 6 : i % 7, i % 7 == 0 ? text.wipe(3) : text.letter(3, 'a'));
+        }
+        Check.is("the 512th call", 0, text.wipe(3));
     }
 }
