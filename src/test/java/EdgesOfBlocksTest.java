@@ -6,6 +6,7 @@ final class EdgesOfBlocksTest {
         limitIsPutFirst();
         limitIsPutOnce();
         limitOfARefusedBlock();
+        sizesOfARefusedBlock();
         longestBlock();
         longestBlockWithALimit();
         strings();
@@ -95,6 +96,21 @@ final class EdgesOfBlocksTest {
         full.x.come(1, 1);
         Check.is("room", 1, full.x.headers(0, 1, false));
         Check.is("the limit stands first", 34, full.x.alter(1, 234, 0));
+    }
+
+    private static void sizesOfARefusedBlock() {
+        Check.sentence("a call with an exception changes nothing: the SIZES of what is in the table");
+        Rig rig = rig(3);
+        block(rig, "a=", "bbbbbb=bbbbbb");
+        rig.list(0, "c=ccc").fill(1, 240 - 10);
+        rig.state("no room", () -> rig.x.headers(0, 1, false));
+        rig.settle();
+        Check.is("sent then", Rig.bytes(64, 1, 'c', 3, 'c', 'c', 'c'), block(rig));
+        Check.is("7 is off for 18 + 10", 2, rig.x.end(0, 2));
+        block(rig, "d=");
+        Check.is("18 is off for 10 + 7", 2, rig.x.end(0, 2));
+        block(rig, "e=eeeeee");
+        Check.is("10 + 7 + 13", "3 3", rig.x.end(0, 2) + " " + rig.x.end(1, 3));
     }
 
     private static void longestBlock() {

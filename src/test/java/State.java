@@ -91,7 +91,8 @@ final class State {
     private void listAndTable(Calls x, int end) {
         drain(x);
         sendList(x, end);
-        for (int letter = 'a'; letter <= 'e'; letter += 2) {
+        // The newest first: the tests add a=b, c=d, e=f, and one that is added anew takes off the oldest.
+        for (int letter = 'e'; letter >= 'a'; letter -= 2) {
             addField(x, end, letter);
         }
         sendList(x, end);
