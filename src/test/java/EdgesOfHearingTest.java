@@ -242,6 +242,13 @@ final class EdgesOfHearingTest {
         data.settle();
         data.shut(0);
         Check.is("DATA is no HEADERS", Rig.bytes(2, 7, 0, 0, 0, 6), data.wireText(1));
+        for (int state = Rig.HEARD; state <= Rig.CLOSED; state++) {
+            Rig late = Rig.inState(0, state);
+            late.hear(0, Rig.HEADERS, 0, 1);
+            late.comeAll(1);
+            late.shut(0);
+            Check.is("on a stream that takes no more", Rig.bytes(2, 7, 0, 0, 1, 6), late.wireText(1));
+        }
     }
 
     private static void whatAwaySaid() {
